@@ -64,7 +64,7 @@ public final class ZoneCalendar {
   public int weekOf(int day) throws IndexOutOfBoundsException {
     needDay(day);
     int thursday = Days.thursdayNear(day);
-    return (thursday - Days.newYear(Days.yearWith(thursday))) / 7 + 1;
+    return (thursday - Days.monthBegin(Days.januaryOf(Days.yearWith(thursday)))) / 7 + 1;
   }
 
   public int yearOfWeek(int day) throws IndexOutOfBoundsException {
@@ -155,7 +155,9 @@ public final class ZoneCalendar {
     if (!changed.hasRoom()) {
       throw new IllegalStateException("the place has 6 turns");
     }
-    return changed.put(new Turn(firstYear, lastYear, told, minute, clock, saving));
+    int added = changed.put(new Turn(firstYear, lastYear, told, minute, clock, saving));
+    changed.findPieces();
+    return added;
   }
 
   public int savingAt(int place, int moment) throws IndexOutOfBoundsException {
@@ -388,7 +390,8 @@ public final class ZoneCalendar {
 
   public boolean isWorkingMinute(int moment) throws IndexOutOfBoundsException {
     needMoment(moment);
-    return work.countMinutes(moment, moment + 1) > 0;
+    work.findFeastsWithin(moment, moment + 1);
+    return work.minutesWithin(moment, moment + 1) > 0;
   }
 
   public int workWithin(int from, int minutes) throws IndexOutOfBoundsException, IllegalArgumentException {
@@ -396,7 +399,8 @@ public final class ZoneCalendar {
     if (minutes < 0 || minutes > Work.MOST_MINUTES || from + minutes > LAST_MOMENT + 1) {
       throw new IllegalArgumentException("no such number of minutes");
     }
-    return work.countMinutes(from, from + minutes);
+    work.findFeastsWithin(from, from + minutes);
+    return work.minutesWithin(from, from + minutes);
   }
 
   public int doneAt(int from, int work) throws IndexOutOfBoundsException, IllegalArgumentException {
@@ -404,7 +408,9 @@ public final class ZoneCalendar {
     if (work < 1 || work > 10000) {
       throw new IllegalArgumentException("work is not 1 to 10000");
     }
-    return this.work.finish(from, work);
+    int latest = Math.min(from + Work.MOST_MINUTES, LAST_MOMENT);
+    this.work.findFeastsWithin(from, latest);
+    return this.work.finish(from, work, latest);
   }
 
   public double meanGap(int series) throws IndexOutOfBoundsException {
@@ -495,8 +501,9 @@ public final class ZoneCalendar {
     }
     sum = mix(sum, work.countDays(first, 400));
     sum = mix(sum, work.dayBehind(first, 20));
-    sum = mix(sum, work.countMinutes(moment, moment + 20000));
-    return mix(sum, work.finish(moment, 3000));
+    work.findFeastsWithin(moment, moment + Work.MOST_MINUTES);
+    sum = mix(sum, work.minutesWithin(moment, moment + 20000));
+    return mix(sum, work.finish(moment, 3000, moment + Work.MOST_MINUTES));
   }
 
   // What the calls need, or else throw.
@@ -560,16 +567,12 @@ public final class ZoneCalendar {
   static final class Days {
     static final int MONTHS = 2400;
 
-    static int newYear(int year) {
-      // Each fourth year from 1904 on has put one leap day behind it when the next one begins.
-      return 365 * (year - FIRST_YEAR) + (year - FIRST_YEAR - 1) / 4;
-    }
-
     static int yearWith(int day) {
       // 1461 days are four years; that 1900 has no leap day puts the years' ends just right.
       return FIRST_YEAR + 4 * (day + 1) / 1461;
     }
 
+    /** The index of January. */
     static int januaryOf(int year) {
       return 12 * (year - FIRST_YEAR);
     }
@@ -582,11 +585,13 @@ public final class ZoneCalendar {
       if (index >= MONTHS) {
         return LAST_DAY + 1;
       }
-      int year = FIRST_YEAR + index / 12;
+      int years = index / 12;
       int month = index % 12 + 1;
+      // Each fourth year but the first one puts a leap day behind it.
+      int newYear = 365 * years + (years - 1) / 4;
       // The fraction tells the days ahead of a month as if February had 30.
-      int tooMany = month <= 2 ? 0 : year % 4 == 0 && year != FIRST_YEAR ? 1 : 2;
-      return newYear(year) + (367 * month - 362) / 12 - tooMany;
+      int tooMany = month <= 2 ? 0 : years % 4 == 0 && years != 0 ? 1 : 2;
+      return newYear + (367 * month - 362) / 12 - tooMany;
     }
 
     static int monthLength(int index) {
@@ -594,9 +599,9 @@ public final class ZoneCalendar {
     }
 
     static int monthWith(int day) {
-      int year = yearWith(day);
+      int january = januaryOf(yearWith(day));
       // No month has more than 31 days, and so few have less that the guess is at most one short.
-      int guess = januaryOf(year) + (day - newYear(year)) / 31;
+      int guess = january + (day - monthBegin(january)) / 31;
       return monthBegin(guess + 1) <= day ? guess + 1 : guess;
     }
 
@@ -624,7 +629,7 @@ public final class ZoneCalendar {
     }
 
     static boolean isIn(int weekdays, int day) {
-      return (weekdays >> weekday(day) & 1) != 0;
+      return (weekdays >> Math.floorMod(day, 7) & 1) != 0;
     }
   }
 
@@ -649,20 +654,19 @@ public final class ZoneCalendar {
 
     /** The DAY that it tells in the month with this index; -1 without one. */
     int toldIn(int index) {
-      if (kind == EASTER_KIND) {
-        int day = toldByEaster(FIRST_YEAR + index / 12);
-        return day >= 0 && Days.monthWith(day) == index ? day : -1;
-      }
       if (month != 0 && month != index % 12 + 1) {
         return -1;
       }
       int begin = Days.monthBegin(index);
-      int length = Days.monthLength(index);
+      int length = Days.monthBegin(index + 1) - begin;
       int told = numberTold(begin, length);
+      if (kind == EASTER_KIND) {
+        told = Days.easter(FIRST_YEAR + index / 12) + number - 100 - begin + 1;
+      }
       return told < 1 || told > length ? -1 : begin + told - 1;
     }
 
-    /** The day of the month that it means; outside of the month if that has no such day. */
+    /** The day of the month that it means if it does not go by Easter; outside of the month if that has no such day. */
     private int numberTold(int begin, int length) {
       if (kind == 0) {
         return number;
@@ -674,17 +678,6 @@ public final class ZoneCalendar {
         return 1 + Math.floorMod(kind - 2 - begin, 7) + 7 * (number - 1);
       }
       return length - Math.floorMod(begin + length - 1 - (kind - 9), 7) - 7 * (number - 1);
-    }
-
-    /** The DAY that a pattern of the last kind tells in a year; -1 if it lies in another one. */
-    private int toldByEaster(int year) {
-      int day = Days.easter(year) + number - 100;
-      return day < Days.newYear(year) || day >= Days.newYear(year + 1) ? -1 : day;
-    }
-
-    /** The DAY that the pattern of a turn, which tells at most one, tells in a year; -1 without one. */
-    int onlyTold(int year) {
-      return kind == EASTER_KIND ? toldByEaster(year) : toldIn(Days.januaryOf(year) + month - 1);
     }
 
     int countIn(int year) {
@@ -731,8 +724,14 @@ public final class ZoneCalendar {
       if (year < firstYear || year > lastYear) {
         return -1;
       }
-      int day = pattern.onlyTold(year);
-      return day < 0 ? -1 : DAY_MINUTES * day + minute;
+      int january = Days.januaryOf(year);
+      for (int index = january; index < january + 12; index++) {
+        int day = pattern.toldIn(index);
+        if (day >= 0) {
+          return DAY_MINUTES * day + minute;
+        }
+      }
+      return -1;
     }
 
     /** The MOMENT of the turn, without a look at the turn ahead of it, that left a saving. */
@@ -781,11 +780,10 @@ public final class ZoneCalendar {
         turns[added] = turn;
         turnCount = added + 1;
       }
-      findPieces();
       return added;
     }
 
-    private void findPieces() {
+    void findPieces() {
       pieces = 0;
       addPiece(0, 0);
       int moment = Integer.MIN_VALUE;
@@ -844,13 +842,9 @@ public final class ZoneCalendar {
       }
     }
 
+    /** The first MOMENT of a piece; behind the last piece the one behind the last MOMENT. */
     int pieceBegin(int piece) {
       return piece < 0 || piece >= pieces || piece >= begins.length ? LAST_MOMENT + 1 : begins[piece];
-    }
-
-    /** The first MOMENT behind a piece. */
-    int pieceEnd(int piece) {
-      return pieceBegin(piece + 1);
     }
 
     private int pieceSaving(int piece) {
@@ -862,7 +856,8 @@ public final class ZoneCalendar {
       return base + pieceSaving(piece);
     }
 
-    int pieceWith(int moment) {
+    /** The piece of a MOMENT; ahead of all the first, behind all the last one. */
+    int pieceWith(long moment) {
       int low = 0;
       int high = pieces - 1;
       for (int n = 0; n < 32 && low < high; n++) {
@@ -896,27 +891,23 @@ public final class ZoneCalendar {
     /** The MOMENT in a piece at which the clock shows a LOCAL time; -1 without one. */
     private int shownIn(int piece, int local) {
       long moment = (long) local - pieceShift(piece);
-      return moment >= pieceBegin(piece) && moment < pieceEnd(piece) ? (int) moment : -1;
+      return moment >= pieceBegin(piece) && moment < pieceBegin(piece + 1) ? (int) moment : -1;
     }
 
-    private int pieceNear(long moment) {
-      return pieceWith((int) Math.max(0, Math.min(moment, LAST_MOMENT)));
+    /** The earliest MOMENT at which the clock may show a LOCAL time, or be put forward over it. */
+    private long earliest(int local) {
+      return (long) local - base - MOST_SAVING;
     }
 
-    /** The first piece in which the clock may show a LOCAL time, or be put forward over it. */
-    private int firstPieceFor(int local) {
-      return pieceNear((long) local - base - MOST_SAVING);
-    }
-
-    /** The last piece in which the clock may show a LOCAL time, or be put forward over it. */
-    private int lastPieceFor(int local) {
-      return pieceNear((long) local - base);
+    /** The latest such MOMENT. */
+    private long latest(int local) {
+      return (long) local - base;
     }
 
     int countShown(int local) {
-      int last = lastPieceFor(local);
+      int last = pieceWith(latest(local));
       int count = 0;
-      for (int piece = firstPieceFor(local); piece <= last; piece++) {
+      for (int piece = pieceWith(earliest(local)); piece <= last; piece++) {
         if (shownIn(piece, local) >= 0) {
           count++;
         }
@@ -925,8 +916,8 @@ public final class ZoneCalendar {
     }
 
     int lastShown(int local) {
-      int first = firstPieceFor(local);
-      for (int piece = lastPieceFor(local); piece >= first; piece--) {
+      int first = pieceWith(earliest(local));
+      for (int piece = pieceWith(latest(local)); piece >= first; piece--) {
         int moment = shownIn(piece, local);
         if (moment >= 0) {
           return moment;
@@ -936,20 +927,20 @@ public final class ZoneCalendar {
     }
 
     int momentFor(int local) {
-      int last = lastPieceFor(local);
-      for (int piece = firstPieceFor(local); piece <= last; piece++) {
+      int first = pieceWith(earliest(local));
+      int last = pieceWith(latest(local));
+      for (int piece = first; piece <= last; piece++) {
         int moment = shownIn(piece, local);
         if (moment >= 0) {
           return moment;
         }
       }
-      return momentPassing(local);
+      return momentPassing(local, first, last);
     }
 
-    /** The first MOMENT at which the clock is put forward over a LOCAL time; -1 without one. */
-    private int momentPassing(int local) {
-      int last = lastPieceFor(local);
-      for (int piece = Math.max(1, firstPieceFor(local)); piece <= last; piece++) {
+    /** The first MOMENT with which one of these pieces begins, put forward over a LOCAL time; -1 without one. */
+    private int momentPassing(int local, int first, int last) {
+      for (int piece = Math.max(1, first); piece <= last; piece++) {
         int moment = pieceBegin(piece);
         boolean earlierAhead = moment - 1 + pieceShift(piece - 1) < local;
         if (earlierAhead && moment + pieceShift(piece) > local) {
@@ -1230,12 +1221,6 @@ public final class ZoneCalendar {
       this.pattern = pattern;
       this.way = way;
     }
-
-    /** The DAY on which it falls in the month with this index, not yet moved; -1 without one. */
-    int toldIn(int index) {
-      int year = FIRST_YEAR + index / 12;
-      return year < firstYear || year > lastYear ? -1 : pattern.toldIn(index);
-    }
   }
 
   /** The calendar of work. Its feasts are found anew for the DAYS that a call looks at. */
@@ -1273,21 +1258,22 @@ public final class ZoneCalendar {
       int firstMonth = Days.monthWith(Math.max(0, falling.firstDay() - MOST_MOVED));
       int lastMonth = Days.monthWith(Math.max(0, Math.min(falling.lastDay() + MOST_MOVED, LAST_DAY)));
       for (int k = 0; k < feastCount && k < feasts.length; k++) {
-        for (int index = firstMonth; index <= lastMonth; index++) {
-          findFeast(k, index);
+        Feast feast = feasts[k];
+        if (feast != null) {
+          int begin = Math.max(firstMonth, Days.januaryOf(feast.firstYear));
+          findFeast(feast, k, begin, Math.min(lastMonth, Days.januaryOf(feast.lastYear) + 11));
         }
       }
     }
 
-    private void findFeast(int number, int index) {
-      Feast feast = number < 0 || number >= feasts.length ? null : feasts[number];
-      int told = feast == null ? -1 : feast.toldIn(index);
-      if (told < 0) {
-        return;
-      }
-      int day = moved(told, feast.way, number);
-      if (falling.read(day) < 0) {
-        falling.write(day, number);
+    /** Finds where a feast falls as it is told in some months. */
+    private void findFeast(Feast feast, int number, int firstMonth, int lastMonth) {
+      for (int index = firstMonth; index <= lastMonth; index++) {
+        int told = feast.pattern.toldIn(index);
+        int day = told < 0 ? -1 : moved(told, feast.way, number);
+        if (falling.read(day) < 0) {
+          falling.write(day, number);
+        }
       }
     }
 
@@ -1308,7 +1294,7 @@ public final class ZoneCalendar {
     }
 
     private boolean takes(int day, int way, int number) {
-      if (!Days.isIn(week, day)) {
+      if ((week >> Math.floorMod(day, 7) & 1) == 0) {
         return false;
       }
       int there = falling.read(day);
@@ -1355,25 +1341,21 @@ public final class ZoneCalendar {
       return -1;
     }
 
-    /** How many working minutes lie from a MOMENT on and ahead of another one. */
-    int countMinutes(int from, int to) {
-      findFeastsWithin(from, to);
-      return minutesWithin(from, to);
-    }
-
-    private void findFeastsWithin(int from, int to) {
+    /** Finds the feasts of all DAYS that the clock can show from a MOMENT on and up to another one. */
+    void findFeastsWithin(int from, int to) {
       int first = Math.floorDiv(from + clock.base, DAY_MINUTES);
       int last = Math.floorDiv(to + clock.base + Place.MOST_SAVING, DAY_MINUTES);
       findFeasts(Math.max(0, Math.min(first, LAST_DAY)), last);
     }
 
-    private int minutesWithin(int from, int to) {
+    /** How many working minutes lie from a MOMENT on and ahead of another one, if the feasts were found. */
+    int minutesWithin(int from, int to) {
       int last = clock.pieceWith(to);
       int sum = 0;
       for (int piece = clock.pieceWith(from); piece <= last; piece++) {
         int shift = clock.pieceShift(piece);
         int begin = Math.max(from, clock.pieceBegin(piece));
-        int end = Math.min(to, clock.pieceEnd(piece));
+        int end = Math.min(to, clock.pieceBegin(piece + 1));
         sum += localMinutes(begin + shift, end + shift);
       }
       return sum;
@@ -1394,10 +1376,9 @@ public final class ZoneCalendar {
       return sum;
     }
 
-    /** The first MOMENT ahead of which so much work is done; -1 if that is too far. */
-    int finish(int from, int wanted) {
-      int latest = Math.min(from + MOST_MINUTES, LAST_MOMENT);
-      if (countMinutes(from, latest) < wanted) {
+    /** The first MOMENT, up to the latest one, ahead of which so much work is done, if the feasts were found; or -1. */
+    int finish(int from, int wanted, int latest) {
+      if (minutesWithin(from, latest) < wanted) {
         return -1;
       }
       int low = from + 1;

@@ -5,6 +5,12 @@ public final class AllTests {
 
   public static void main(String[] args) {
     DaysTest.run();
+    PatternsTest.run();
+    PlacesTest.run();
+    SeriesTest.run();
+    WorkTest.run();
+    DigestTest.run();
+    FaceTest.run();
     RandomRunsTest.run(args.length > 0 ? Integer.parseInt(args[0]) : 60);
     if (!Checks.end()) {
       System.exit(1);

@@ -53,7 +53,8 @@ final class DaysTest {
     Checks.due(x.dayOf(1900, 1, 1), 0);
     Checks.due(x.dayOf(2000, 2, 29), 36583);
     Checks.due(x.dayOf(2099, 12, 31), 73048);
-    for (int year : new int[] {1899, 2100, 0, Integer.MIN_VALUE, Integer.MAX_VALUE}) {
+    // 12 times 2^30 wraps around to 0.
+    for (int year : new int[] {1899, 2100, 0, 1900 + (1 << 30), Integer.MIN_VALUE, Integer.MAX_VALUE}) {
       Checks.noArgument(() -> x.dayOf(year, 1, 1));
     }
     for (int month : new int[] {0, 13, -1, Integer.MIN_VALUE, Integer.MAX_VALUE}) {

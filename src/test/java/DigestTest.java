@@ -1,0 +1,148 @@
+/** Promise 48, with numbers put in by hand, and that calls which throw change nothing. */
+final class DigestTest {
+  private DigestTest() {
+  }
+
+  static void run() {
+    Checks.test("promise 48: digest of a new object", DigestTest::ofNewObject);
+    Checks.test("promise 48: digest of patterns and places", DigestTest::ofPlaces);
+    Checks.test("promise 48: digest of series", DigestTest::ofSeries);
+    Checks.test("promise 48: digest of work", DigestTest::ofWork);
+    Checks.test("calls that throw change nothing", DigestTest::unchangedByThrows);
+  }
+
+  private static long sum(long before, long... values) {
+    long sum = before;
+    for (long value : values) {
+      sum = sum * 31 + value;
+    }
+    return sum;
+  }
+
+  /** What the calendar of work adds as it is at first. DAY 36500 is a Wednesday, and begins at MOMENT 52560000. */
+  private static long sumWithFirstWork(long before) {
+    long sum = before;
+    for (int k = 0; k < 20; k++) {
+      sum = sum(sum, -1, (k + 2) % 7 < 5 ? 1 : 0);
+    }
+    return sum(sum, 286, 36528, 10 * 480, 52560000 + 8 * 1440 + 660);
+  }
+
+  private static void ofNewObject() {
+    ZoneCalendar x = new ZoneCalendar();
+    Checks.due(x.digest(), sumWithFirstWork(sum(2441, 0, 0, 0)));
+    Checks.due(x.digest(), sumWithFirstWork(sum(2441, 0, 0, 0)));
+  }
+
+  private static void ofPlaces() {
+    ZoneCalendar x = new ZoneCalendar();
+    x.addPattern(3, 15, 1);
+    x.addPattern(0, 0, 31);
+    x.addPattern(2, 0, 30);
+    long patterns = sum(2441, 3, 1, 36609, 7, 36614, 0, -1);
+    Checks.due(x.digest(), sumWithFirstWork(sum(patterns, 0, 0)));
+    x.addPlace(60);
+    x.addPlace(-300);
+    x.addTurn(0, 2000, 2000, 0, 60, 2, 60);
+    x.addTurn(1, 1999, 1999, 0, 60, 2, 30);
+    long first = sum(patterns, 2, 0, 52596060, 1440 * 36609 + 60, 1, 52740000, 52740000);
+    long second = sum(first, 30, 52595730, -1, 1, 52740390, 52740390);
+    Checks.due(x.digest(), sumWithFirstWork(sum(second, 0)));
+    // 2:00 on April 11th, 2000, which the clock shows not at all, and twice.
+    ZoneCalendar y = new ZoneCalendar();
+    y.addPattern(4, 0, 11);
+    y.addPlace(0);
+    y.addPlace(0);
+    y.addTurn(0, 2000, 2000, 0, 100, 2, 60);
+    y.addTurn(1, 1999, 1999, 0, 0, 2, 60);
+    y.addTurn(1, 2000, 2000, 0, 61, 2, 0);
+    long gap = sum(2441, 1, 1, 36625, 2, 0, 52596000, 52740100, 0, 52740100, -1);
+    long twice = sum(gap, 60, 52596060, 52740061, 2, 52740060, 52740120);
+    Checks.due(y.digest(), sumWithFirstWork(sum(twice, 0)));
+  }
+
+  private static void ofSeries() {
+    ZoneCalendar x = new ZoneCalendar();
+    x.addPlace(0);
+    long places = sum(2441, 0, 1, 0, 52596000, -1, 1, 52740120, 52740120);
+    int day = 36500;
+    x.addSeries(0, 1440 * day + 5, 0, 2, 0);
+    x.setLast(0, day + 7);
+    x.addSeries(0, 1440 * day + 6, 0, 1, 0);
+    x.setMost(1, 1);
+    x.addSeries(0, 1440 * day + 7, 0, 1, 0);
+    x.setChoice(2, 2);
+    x.addSeries(0, 1440 * day + 8, 0, 3, 0);
+    x.setMost(3, 3);
+    x.except(3, day + 3);
+    long first = sum(places, 4, 4, 2, day, 1440 * day + 5, day + 6, 1440 * (day + 6) + 5, 4, 1, 0, 2);
+    long second = sum(first, 1, 0, day, 1440 * day + 6, 1, 1, 0, 1);
+    long third = sum(second, 0, 0);
+    long fourth = sum(third, 2, 6, day, 1440 * day + 8, day + 6, 1440 * (day + 6) + 8, 2, 1, 0, 2);
+    Checks.due(x.digest(), sumWithFirstWork(fourth));
+  }
+
+  private static void ofWork() {
+    ZoneCalendar x = new ZoneCalendar();
+    x.addPattern(0, 0, 10);
+    x.addPattern(12, 0, 11);
+    x.addFeast(1900, 2099, 1, 0);
+    x.addFeast(1999, 1999, 0, 1);
+    // DAY 36500 is December 8th, 1999; the 10th is a Friday, the 11th a Saturday.
+    long sum = sum(2441, 2, 12, 36624, 1, 36869, 0, 0);
+    for (int k = 0; k < 20; k++) {
+      sum = sum(sum, k == 2 ? 1 : k == 3 ? 0 : -1, (k + 2) % 7 < 5 && k != 2 ? 1 : 0);
+    }
+    // Of 286 one day is the 10th, and December 11th, 2000, a Monday.
+    sum = sum(sum, 284, 36529, 9 * 480, 52560000 + 9 * 1440 + 660);
+    Checks.due(x.digest(), sum);
+  }
+
+  private static void unchangedByThrows() {
+    ZoneCalendar x = new ZoneCalendar();
+    for (int k = 0; k < 24; k++) {
+      x.addPattern(1 + k % 12, 0, 1 + k);
+    }
+    for (int k = 0; k < 6; k++) {
+      x.addPlace(60 * k);
+      x.addSeries(k, 52596000, k % 4, 1 + k, 0);
+    }
+    for (int k = 0; k < 6; k++) {
+      x.addTurn(0, 1990, 2010, k, 60, 0, 10 * k);
+    }
+    for (int k = 0; k < 4; k++) {
+      x.usePattern(5, k);
+    }
+    for (int k = 0; k < 8; k++) {
+      x.except(0, 36525 + 2 * k);
+    }
+    for (int k = 0; k < 20; k++) {
+      x.addFeast(1990, 2010, k, k % 4);
+    }
+    x.setWorkPlace(0);
+    long before = x.digest();
+    Checks.noState(() -> x.addPattern(1, 0, 1));
+    Checks.noState(() -> x.addPlace(0));
+    Checks.noState(() -> x.addTurn(0, 1999, 2001, 0, 0, 0, 100));
+    Checks.noArgument(() -> x.addTurn(1, 1999, 2001, 0, 0, 0, 181));
+    Checks.noState(() -> x.addSeries(0, 52596000, 0, 1, 0));
+    Checks.noState(() -> x.usePattern(5, 7));
+    Checks.noIndex(() -> x.usePattern(0, 24));
+    Checks.noArgument(() -> x.setChoice(0, 7));
+    Checks.noArgument(() -> x.setMost(0, 501));
+    Checks.noArgument(() -> x.setLast(0, 0));
+    Checks.noState(() -> x.except(0, 36526));
+    Checks.noIndex(() -> x.except(1, 73049));
+    Checks.noIndex(() -> x.setWorkPlace(6));
+    Checks.noArgument(() -> x.setWeek(128));
+    Checks.noArgument(() -> x.setHours(10, 1441));
+    Checks.noArgument(() -> x.setHours(1440, 1441));
+    Checks.noState(() -> x.addFeast(1990, 2010, 0, 0));
+    Checks.due(x.digest(), before);
+    Checks.due(x.setChoice(0, 0), 0);
+    Checks.due(x.setMost(0, 0), 0);
+    Checks.due(x.setLast(0, 36525), 40525);
+    Checks.due(x.setWorkPlace(1), 0);
+    Checks.due(x.setWeek(31), 31);
+  }
+}
