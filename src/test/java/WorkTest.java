@@ -477,6 +477,23 @@ final class WorkTest {
     Checks.due(x.isWorkingMinute(0), true);
     Checks.due(x.isWorkingMinute(LAST_MOMENT - 1), true);
     Checks.due(x.isWorkingMinute(LAST_MOMENT), false);
+    // The greatest saving there is: May 1st begins 3 hours ahead of its MOMENT, and is a feast.
+    ZoneCalendar y = new ZoneCalendar();
+    y.addPattern(1, 0, 1);
+    y.addPattern(5, 0, 1);
+    y.addPlace(0);
+    y.addTurn(0, 2000, 2000, 0, 0, 2, 180);
+    y.addFeast(2000, 2000, 1, STAY);
+    y.setWorkPlace(0);
+    y.setWeek(127);
+    y.setHours(0, 1440);
+    int may = 1440 * day(2000, 5, 1) - 180;
+    Checks.due(y.isWorkingMinute(may - 1), true);
+    Checks.due(y.isWorkingMinute(may), false);
+    Checks.due(y.isWorkingMinute(may + 1439), false);
+    Checks.due(y.isWorkingMinute(may + 1440), true);
+    Checks.due(y.workWithin(may - 10, 11), 10);
+    Checks.due(y.doneAt(may - 10, 11), may + 1441);
     for (int none : new int[] {-1, LAST_MOMENT + 1, Integer.MIN_VALUE, Integer.MAX_VALUE}) {
       Checks.noIndex(() -> x.isWorkingMinute(none));
     }
