@@ -5,8 +5,10 @@ public final class AllTests {
 
   public static void main(String[] args) {
     DaysTest.run();
+    DayEdgesTest.run();
     PatternsTest.run();
     PlacesTest.run();
+    ClockEdgesTest.run();
     SeriesTest.run();
     WorkTest.run();
     DigestTest.run();
