@@ -10,6 +10,7 @@ public final class AllTests {
     PlacesTest.run();
     ClockEdgesTest.run();
     SeriesTest.run();
+    SeriesEdgesTest.run();
     WorkTest.run();
     DigestTest.run();
     FaceTest.run();
