@@ -12,6 +12,7 @@ public final class AllTests {
     SeriesTest.run();
     SeriesEdgesTest.run();
     WorkTest.run();
+    WorkEdgesTest.run();
     DigestTest.run();
     FaceTest.run();
     RandomRunsTest.run(args.length > 0 ? Integer.parseInt(args[0]) : 60);
