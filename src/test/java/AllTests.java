@@ -14,6 +14,7 @@ public final class AllTests {
     WorkTest.run();
     WorkEdgesTest.run();
     DigestTest.run();
+    RefusedCallsTest.run();
     FaceTest.run();
     RandomRunsTest.run(args.length > 0 ? Integer.parseInt(args[0]) : 60);
     if (!Checks.end()) {

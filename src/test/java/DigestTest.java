@@ -8,6 +8,9 @@ final class DigestTest {
     Checks.test("promise 48: digest of patterns and places", DigestTest::ofPlaces);
     Checks.test("promise 48: digest of series", DigestTest::ofSeries);
     Checks.test("promise 48: digest of work", DigestTest::ofWork);
+    Checks.test("edge, 48: a series without dates, with one and with two", DigestTest::ofFewDates);
+    Checks.test("edge, 48: answers of -1", DigestTest::ofNone);
+    Checks.test("edge, 48: a full object, over the end of 64 bits", DigestTest::ofFullObject);
     Checks.test("calls that throw change nothing", DigestTest::unchangedByThrows);
   }
 
@@ -96,6 +99,96 @@ final class DigestTest {
     // Of 286 one day is the 10th, and December 11th, 2000, a Monday.
     sum = sum(sum, 284, 36529, 9 * 480, 52560000 + 9 * 1440 + 660);
     Checks.due(x.digest(), sum);
+  }
+
+  /** The digest once more, of what the calls answer, with how many there are of everything told. */
+  private static long told(ZoneCalendar x, int patterns, int places, int series) {
+    long sum = sum(2441, patterns);
+    for (int k = 0; k < patterns; k++) {
+      sum = sum(sum, x.daysTold(k, 2000), x.nextTold(k, 36600));
+    }
+    sum = sum(sum, places);
+    for (int k = 0; k < places; k++) {
+      sum = sum(sum, x.savingAt(k, 52596000), x.localAt(k, 52596000), x.nextChange(k, 52596000));
+      sum = sum(sum, x.showsOften(k, 52740120), x.momentOf(k, 52740120), x.lastMomentOf(k, 52740120));
+    }
+    sum = sum(sum, series);
+    for (int k = 0; k < series; k++) {
+      int last = x.dates(k) - 1;
+      sum = sum(sum, last + 1, x.widestGap(k));
+      if (last >= 0) {
+        sum = sum(sum, x.dateAt(k, 0), x.dateMoment(k, 0));
+      }
+      if (last >= 1) {
+        sum = sum(sum, x.dateAt(k, last), x.dateMoment(k, last));
+      }
+      for (int other = 0; last >= 0 && other < series; other++) {
+        sum = sum(sum, x.common(k, other));
+      }
+    }
+    for (int day = 36500; day < 36520; day++) {
+      sum = sum(sum, x.feastOn(day), x.isWorking(day) ? 1 : 0);
+    }
+    sum = sum(sum, x.workingDays(36500, 400), x.plusWorking(36500, 20));
+    return sum(sum, x.workWithin(52560000, 20000), x.doneAt(52560000, 3000));
+  }
+
+  private static void ofFewDates() {
+    ZoneCalendar x = new ZoneCalendar();
+    x.addPlace(0);
+    for (int k = 0; k < 3; k++) {
+      x.addSeries(0, 1440 * 36500 + k, 0, 1, 0);
+      x.setLast(k, 36500 + Math.max(0, k - 1));
+    }
+    x.except(0, 36500);
+    Checks.due(x.dates(0), 0);
+    Checks.due(x.dates(1), 1);
+    Checks.due(x.dates(2), 2);
+    long sum = sum(2441, 0, 1, 0, 52596000, -1, 1, 52740120, 52740120, 3, 0, 0);
+    sum = sum(sum, 1, 0, 36500, 52560001, 0, 1, 1);
+    sum = sum(sum, 2, 1, 36500, 52560002, 36501, 52561442, 0, 1, 2);
+    Checks.due(x.digest(), sumWithFirstWork(sum));
+    Checks.due(x.digest(), told(x, 0, 1, 3));
+  }
+
+  private static void ofNone() {
+    // Pattern 0 tells nothing; the series begins ahead of MOMENT 0; work is a minute of each Sunday.
+    ZoneCalendar x = new ZoneCalendar();
+    x.addPattern(2, 0, 30);
+    x.addPlace(60);
+    x.addSeries(0, 59, 0, 1, 0);
+    x.setLast(0, 0);
+    x.setWeek(64);
+    x.setHours(1439, 1440);
+    long sum = sum(2441, 1, 0, -1, 1, 0, 52596060, -1, 1, 52740060, 52740060, 1, 1, 0, 0, -1, 1);
+    for (int k = 0; k < 20; k++) {
+      // DAY 36500 is a Wednesday.
+      sum = sum(sum, -1, k % 7 == 4 ? 1 : 0);
+    }
+    sum = sum(sum, 57, 36504 + 19 * 7, 2, -1);
+    Checks.due(x.digest(), sum);
+  }
+
+  private static void ofFullObject() {
+    ZoneCalendar x = new ZoneCalendar();
+    for (int k = 0; k < 24; k++) {
+      x.addPattern(k % 2 == 0 ? 1 + k / 2 : 0, k % 2 == 0 ? k % 16 : 16, k % 2 == 0 ? 1 + k % 5 : 90 + k);
+    }
+    for (int k = 0; k < 6; k++) {
+      x.addPlace(168 * k - 420);
+      x.addSeries(k, 52560000 + 1000 * k, k % 4, 1 + k, 0);
+      for (int turn = 0; turn < 6; turn++) {
+        x.addTurn(k, 1990 + k, 2010 - k, (7 * turn + k) % 24, 100 * turn, turn % 3, 30 * turn);
+      }
+      x.usePattern(k, k);
+    }
+    for (int k = 0; k < 20; k++) {
+      x.addFeast(1990, 2010, k, k % 4);
+    }
+    x.setWorkPlace(3);
+    Checks.due(x.digest(), told(x, 24, 6, 6));
+    // No call changes it but those that change something.
+    Checks.due(x.digest(), told(x, 24, 6, 6));
   }
 
   private static void unchangedByThrows() {
