@@ -50,6 +50,7 @@ final class ClockEdgesTest {
     Checks.test("edge, 19: at the first and the last MOMENT", ClockEdgesTest::changeAtEnds);
     Checks.test("edge, 19: no such place or MOMENT", ClockEdgesTest::changeRefused);
     Checks.test("edge, 20: at no MOMENT, one or two", ClockEdgesTest::oftenAtTurns);
+    Checks.test("edge, 20: at turns of places far ahead and far behind", ClockEdgesTest::oftenFarOff);
     Checks.test("edge, 20: at more than two", ClockEdgesTest::oftenMore);
     Checks.test("edge, 20: MOMENTS 0 to the last one alone", ClockEdgesTest::oftenAtEnds);
     Checks.test("edge, 21: the first at which the clock shows it", ClockEdgesTest::momentFirst);
@@ -291,6 +292,16 @@ final class ClockEdgesTest {
     fifth.addTurn(0, 1970, 2010, sunday, 0, NONE, 60);
     fifth.addTurn(0, 1900, 2099, JULY_1ST, 0, NONE, 0);
     changesAre(fifth, at(1976, 2, 29, 0), at(1976, 7, 1, 0), at(2004, 2, 29, 0), at(2004, 7, 1, 0));
+    // In 1913 and 1999 alone there is none, though in the January behind it there would be one.
+    ZoneCalendar alone = place(0);
+    alone.addTurn(0, 1913, 1913, alone.addPattern(0, 16, 18), 0, NONE, 60);
+    changesAre(alone);
+    // January has a fifth Monday in 2000, not in 1999.
+    ZoneCalendar monday = place(0);
+    monday.addTurn(0, 1999, 1999, monday.addPattern(1, 2, 5), 0, NONE, 60);
+    changesAre(monday);
+    monday.addTurn(0, 2000, 2000, 6, 0, NONE, 60);
+    changesAre(monday, at(2000, 1, 31, 0));
     // A pattern that never tells a day.
     ZoneCalendar never = place(0);
     never.addTurn(0, 1900, 2099, never.addPattern(4, 0, 31), 0, NONE, 60);
@@ -598,6 +609,33 @@ final class ClockEdgesTest {
     }
   }
 
+  private static void oftenFarOff() {
+    int forth = at(2000, 7, 1, 600);
+    int back = at(2000, 12, 31, 600);
+    for (int base : new int[] {-840, -181, 181, 840}) {
+      ZoneCalendar x = place(base);
+      turn(x, 2000, JULY_1ST, 600, NONE, 180);
+      turn(x, 2000, DECEMBER_31ST, 600, NONE, 0);
+      Checks.due(x.showsOften(0, forth + base - 1), 1);
+      Checks.due(x.showsOften(0, forth + base), 0);
+      Checks.due(x.showsOften(0, forth + base + 179), 0);
+      Checks.due(x.showsOften(0, forth + base + 180), 1);
+      Checks.due(x.momentOf(0, forth + base), forth);
+      Checks.due(x.momentOf(0, forth + base + 179), forth);
+      Checks.due(x.momentOf(0, forth + base + 181), forth + 1);
+      Checks.due(x.lastMomentOf(0, forth + base - 1), forth - 1);
+      Checks.due(x.lastMomentOf(0, forth + base), -1);
+      Checks.due(x.showsOften(0, back + base - 1), 1);
+      Checks.due(x.showsOften(0, back + base), 2);
+      Checks.due(x.showsOften(0, back + base + 179), 2);
+      Checks.due(x.showsOften(0, back + base + 180), 1);
+      Checks.due(x.momentOf(0, back + base), back - 180);
+      Checks.due(x.momentOf(0, back + base + 179), back - 1);
+      Checks.due(x.lastMomentOf(0, back + base), back);
+      Checks.due(x.lastMomentOf(0, back + base + 179), back + 179);
+    }
+  }
+
   private static void oftenMore() {
     // A saving of 180 from minute 0 on, and 30 less behind each 30 minutes: each time minutes 180 to 209 are shown.
     ZoneCalendar x = place(0);
@@ -732,6 +770,17 @@ final class ClockEdgesTest {
     Checks.due(second.momentOf(0, 60), 1);
     Checks.due(second.momentOf(0, 61), 1);
     Checks.due(second.momentOf(0, 62), 2);
+    // Put forward ahead of MOMENT 0, back at it, and forward at MOMENT 1: this one alone counts.
+    ZoneCalendar ahead = place(1);
+    turn(ahead, 1900, JANUARY_1ST, 0, BASE, 60);
+    turn(ahead, 1900, JANUARY_1ST, 1, BASE, 0);
+    turn(ahead, 1900, JANUARY_1ST, 2, BASE, 60);
+    Checks.due(ahead.momentOf(0, 0), -1);
+    Checks.due(ahead.momentOf(0, 1), 0);
+    Checks.due(ahead.momentOf(0, 2), 1);
+    Checks.due(ahead.momentOf(0, 30), 1);
+    Checks.due(ahead.momentOf(0, 62), 1);
+    Checks.due(ahead.momentOf(0, 63), 2);
     ZoneCalendar last = place(0);
     turn(last, 2099, DECEMBER_31ST, 1439, NONE, 60);
     Checks.due(last.momentOf(0, LAST_MOMENT - 1), LAST_MOMENT - 1);

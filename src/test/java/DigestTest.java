@@ -10,6 +10,9 @@ final class DigestTest {
     Checks.test("promise 48: digest of work", DigestTest::ofWork);
     Checks.test("edge, 48: a series without dates, with one and with two", DigestTest::ofFewDates);
     Checks.test("edge, 48: answers of -1", DigestTest::ofNone);
+    Checks.test("edge, 48: just the year 2000, and from DAY 36600 on", DigestTest::ofEdgesOfDays);
+    Checks.test("edge, 48: just the MOMENTS and LOCAL times that are named", DigestTest::ofEdgesOfClocks);
+    Checks.test("edge, 48: just 20 DAYS, 400 days and 20000 minutes", DigestTest::ofEdgesOfWork);
     Checks.test("edge, 48: a full object, over the end of 64 bits", DigestTest::ofFullObject);
     Checks.test("calls that throw change nothing", DigestTest::unchangedByThrows);
   }
@@ -167,6 +170,79 @@ final class DigestTest {
     }
     sum = sum(sum, 57, 36504 + 19 * 7, 2, -1);
     Checks.due(x.digest(), sum);
+  }
+
+  private static void ofEdgesOfDays() {
+    ZoneCalendar x = new ZoneCalendar();
+    x.addPattern(2, 0, 29);
+    x.addPattern(3, 0, 16);
+    x.addPattern(3, 0, 17);
+    // DAY 36600 is March 17th, 2000.
+    long sum = sum(2441, 3, 1, 36583 + 1461, 1, 36600 - 1 + 365, 1, 36600, 0, 0);
+    Checks.due(x.digest(), sumWithFirstWork(sum));
+  }
+
+  private static void ofEdgesOfClocks() {
+    // MOMENT 52596000 is the beginning of January 2nd, 2000, LOCAL 52740120 2:00 on April 11th.
+    ZoneCalendar x = new ZoneCalendar();
+    x.addPattern(1, 0, 1);
+    x.addPattern(1, 0, 2);
+    x.addPattern(4, 0, 11);
+    long sum = sum(2441, 3, 1, 36890, 1, 36891, 1, 36625);
+    for (int k = 0; k < 4; k++) {
+      x.addPlace(0);
+    }
+    // From that MOMENT on, from the one ahead of it, and from the one behind it.
+    x.addTurn(0, 2000, 2000, 1, 0, 2, 60);
+    x.addTurn(1, 2000, 2000, 0, 1439, 2, 60);
+    x.addTurn(2, 2000, 2000, 1, 1, 2, 60);
+    // Put forward by a minute, over just that LOCAL time.
+    x.addTurn(3, 2000, 2000, 2, 120, 2, 1);
+    Checks.due(x.savingAt(3, 52740120), 1);
+    sum = sum(sum, 4, 60, 52596060, -1, 1, 52740060, 52740060);
+    sum = sum(sum, 60, 52596060, -1, 1, 52740060, 52740060);
+    sum = sum(sum, 0, 52596000, 52596001, 1, 52740060, 52740060);
+    sum = sum(sum, 0, 52596000, 52740120, 0, 52740120, -1);
+    Checks.due(x.digest(), sumWithFirstWork(sum(sum, 0)));
+  }
+
+  /** The digest of a calendar with this week and these hours, and a feast on December 7th, 8th, 27th and 28th, 1999. */
+  private static long withFeasts(int week, int first, int last, long... work) {
+    ZoneCalendar x = new ZoneCalendar();
+    long due = sum(2441, 4);
+    int[] dates = {7, 8, 27, 28};
+    for (int k = 0; k < 4; k++) {
+      x.addFeast(1999, 1999, x.addPattern(12, 0, dates[k]), 0);
+      due = sum(due, 1, 36858 + dates[k]);
+    }
+    x.setWeek(week);
+    x.setHours(first, last);
+    due = sum(due, 0, 0);
+    for (int k = 0; k < 20; k++) {
+      // DAY 36500 is Wednesday, December 8th, 36519 is December 27th.
+      boolean works = (week >> (k + 2) % 7 & 1) == 1 && k != 0 && k != 19;
+      due = sum(due, k == 0 ? 1 : k == 19 ? 2 : -1, works ? 1 : 0);
+    }
+    Checks.due(x.digest(), sum(due, work));
+    return due;
+  }
+
+  private static void ofEdgesOfWork() {
+    // 20000 minutes from the beginning of DAY 36500 on end with minute 1279 of the 14th day, DAY 36513, a Tuesday.
+    withFeasts(127, 0, 1440, 400 - 3, 36500 + 22, 20000 - 1440, 52560000 + 1440 + 3000);
+    withFeasts(2, 1279, 1280, 57 - 1, 36506 + 20 * 7, 2, -1);
+    withFeasts(2, 1280, 1281, 57 - 1, 36506 + 20 * 7, 1, -1);
+    withFeasts(2, 1439, 1440, 57 - 1, 36506 + 20 * 7, 1, -1);
+    // Of the Wednesdays DAY 36500 is a feast; without one it would be worked from its first minute on.
+    withFeasts(4, 0, 1, 58 - 1, 36500 + 20 * 7, 1, -1);
+    ZoneCalendar x = new ZoneCalendar();
+    x.setWeek(4);
+    x.setHours(0, 1);
+    long sum = sum(2441, 0, 0, 0);
+    for (int k = 0; k < 20; k++) {
+      sum = sum(sum, -1, k % 7 == 0 ? 1 : 0);
+    }
+    Checks.due(x.digest(), sum(sum, 58, 36500 + 20 * 7, 2, -1));
   }
 
   private static void ofFullObject() {

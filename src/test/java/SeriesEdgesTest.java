@@ -851,6 +851,21 @@ final class SeriesEdgesTest {
     Checks.due(x.common(0, 5), 0);
     Checks.due(x.common(5, 0), 0);
     Checks.due(x.common(5, 5), 0);
+    // DAY 0 and DAY 73048 are DAYS like any other.
+    ZoneCalendar ends = series(0, DAYS, 1, 0);
+    ends.addSeries(0, 0, DAYS, 1, 0);
+    ends.setChoice(1, 2);
+    ends.addSeries(0, 0, DAYS, 2, 0);
+    ends.addSeries(0, LAST_MOMENT, DAYS, 1, 0);
+    ends.addSeries(0, LAST_MOMENT, DAYS, 1, 1);
+    ends.setMost(0, 1);
+    Checks.due(ends.common(0, 1), 0);
+    Checks.due(ends.common(1, 0), 0);
+    Checks.due(ends.common(0, 2), 1);
+    Checks.due(ends.common(0, 3), 0);
+    Checks.due(ends.common(3, 3), 1);
+    Checks.due(ends.common(3, 4), 0);
+    Checks.due(ends.common(4, 0), 0);
   }
 
   private static void commonRefused() {

@@ -68,6 +68,7 @@ final class WorkEdgesTest {
     Checks.test("edge, 45: minutes are 0 to 50000", WorkEdgesTest::withinMost);
     Checks.test("edge, 45: from + minutes is at most 105190560", WorkEdgesTest::withinAtLast);
     Checks.test("edge, 45: minutes that are passed and shown twice", WorkEdgesTest::withinTurns);
+    Checks.test("edge, 45: the DAYS of a place far ahead and far behind", WorkEdgesTest::withinFarOff);
     Checks.test("edge, 45: no such MOMENT", WorkEdgesTest::withinRefused);
     Checks.test("edge, 46: from from on, and ahead of that MOMENT", WorkEdgesTest::doneFrom);
     Checks.test("edge, 46: work is 1 to 10000", WorkEdgesTest::doneMost);
@@ -442,6 +443,19 @@ final class WorkEdgesTest {
       }
       Checks.due(x.isWorking(day(2000, 3, 6)), date < 6);
     }
+    // So too from DAY 0 on, and from the DAY that is just ahead of the last one by so many: none at all.
+    ZoneCalendar first = new ZoneCalendar();
+    first.setWeek(MONDAY);
+    for (int number = 1; number <= 4; number++) {
+      first.addFeast(1900, 1900, first.addPattern(0, 2, number), STAY);
+    }
+    first.addFeast(1900, 1900, first.addPattern(1, 2, 5), STAY);
+    first.addFeast(1900, 1900, first.addPattern(1, 0, 2), NEXT_FREE);
+    first.addFeast(1900, 1900, first.addPattern(4, 0, 2), NEXT_FREE);
+    // January 1900 has a fifth Monday, that is taken; the next one is April 30th.
+    fallsOn(first, 5, 0, 400);
+    fallsOn(first, 6, 0, 400, day(1900, 4, 30));
+    Checks.due(first.feastOn(0), 0);
     // With one Monday between free it is that.
     ZoneCalendar y = new ZoneCalendar();
     y.setWeek(MONDAY);
@@ -879,6 +893,34 @@ final class WorkEdgesTest {
     Checks.due(x.doneAt(wednesday, 120), wednesday + 600);
     Checks.due(x.doneAt(wednesday, 121), wednesday + 661);
     Checks.due(x.doneAt(wednesday, 300), wednesday + 840);
+  }
+
+  private static void withinFarOff() {
+    // July 5th, 2000, is a feast: by the clock of a place it lasts from its midnight to the next one.
+    int[] bases = {-840, -1, 0, 1, 840};
+    for (int base : bases) {
+      for (int saving : new int[] {0, 180}) {
+        ZoneCalendar x = feast(ALL, 7, 5, STAY);
+        x.setHours(0, 1440);
+        x.addPlace(base);
+        x.addTurn(0, 1990, 1990, 0, 0, 2, saving);
+        x.setWorkPlace(0);
+        int begin = 1440 * day(2000, 7, 5) - base - saving;
+        Checks.due(x.isWorkingMinute(begin - 1), true);
+        Checks.due(x.isWorkingMinute(begin), false);
+        Checks.due(x.isWorkingMinute(begin + 1439), false);
+        Checks.due(x.isWorkingMinute(begin + 1440), true);
+        Checks.due(x.workWithin(begin - 1, 1), 1);
+        Checks.due(x.workWithin(begin - 1, 2), 1);
+        Checks.due(x.workWithin(begin, 1440), 0);
+        Checks.due(x.workWithin(begin, 1441), 1);
+        Checks.due(x.workWithin(begin - 48560, 50000), 48560);
+        Checks.due(x.workWithin(begin - 49999, 50000), 49999);
+        Checks.due(x.doneAt(begin - 1, 1), begin);
+        Checks.due(x.doneAt(begin - 1, 2), begin + 1441);
+        Checks.due(x.doneAt(begin, 1), begin + 1441);
+      }
+    }
   }
 
   private static void withinRefused() {
