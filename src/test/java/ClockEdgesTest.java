@@ -781,6 +781,19 @@ final class ClockEdgesTest {
     Checks.due(ahead.momentOf(0, 30), 1);
     Checks.due(ahead.momentOf(0, 62), 1);
     Checks.due(ahead.momentOf(0, 63), 2);
+    // 180 from MOMENT 0 on, 170 from 10 on, 0 from 20 on, 120 from 30 on: LOCAL 100 is passed with MOMENT 30 alone, for
+    // at MOMENT 9 the clock shows a later time, not an earlier one.
+    ZoneCalendar back = place(0);
+    int[] savings = {180, 170, 0, 120};
+    for (int k = 0; k < 4; k++) {
+      turn(back, 1900, JANUARY_1ST, 10 * k, NONE, savings[k]);
+    }
+    Checks.due(back.showsOften(0, 100), 0);
+    Checks.due(back.momentOf(0, 100), 30);
+    Checks.due(back.momentOf(0, 29), 29);
+    Checks.due(back.momentOf(0, 30), 30);
+    Checks.due(back.momentOf(0, 19), -1);
+    Checks.due(back.momentOf(0, 179), 59);
     ZoneCalendar last = place(0);
     turn(last, 2099, DECEMBER_31ST, 1439, NONE, 60);
     Checks.due(last.momentOf(0, LAST_MOMENT - 1), LAST_MOMENT - 1);

@@ -43,6 +43,7 @@ final class WorkEdgesTest {
     Checks.test("edge, terms: way 3 heeds smaller feasts as they are moved", WorkEdgesTest::heedsMovedFeasts);
     Checks.test("edge, terms: way 3, the 60th day and the 61st", WorkEdgesTest::sixtyDays);
     Checks.test("edge, terms: two days of a feast that come to lie on one", WorkEdgesTest::fallsTogether);
+    Checks.test("edge, terms: a feast does not give way to itself", WorkEdgesTest::staysByItself);
     Checks.test("edge, terms: moved to the year behind or ahead", WorkEdgesTest::movedOverYear);
     Checks.test("edge, terms: moved behind DAY 73048 a feast falls on none", WorkEdgesTest::movedBehindLast);
     Checks.test("edge, terms: moved ahead of DAY 0 a feast falls on none", WorkEdgesTest::movedAheadOfFirst);
@@ -443,7 +444,7 @@ final class WorkEdgesTest {
       }
       Checks.due(x.isWorking(day(2000, 3, 6)), date < 6);
     }
-    // So too from DAY 0 on, and from the DAY that is just ahead of the last one by so many: none at all.
+    // So too in the first year.
     ZoneCalendar first = new ZoneCalendar();
     first.setWeek(MONDAY);
     for (int number = 1; number <= 4; number++) {
@@ -456,6 +457,16 @@ final class WorkEdgesTest {
     fallsOn(first, 5, 0, 400);
     fallsOn(first, 6, 0, 400, day(1900, 4, 30));
     Checks.due(first.feastOn(0), 0);
+    // On none is not on DAY 0 either, where no other feast falls: Tuesdays alone, the first nine of which are taken.
+    ZoneCalendar none = new ZoneCalendar();
+    none.setWeek(2);
+    for (int k = 0; k < 9; k++) {
+      int tuesday = 1 + 7 * k;
+      none.addFeast(1900, 1900, none.addPattern(none.monthOf(tuesday), 0, none.dayOfMonth(tuesday)), STAY);
+    }
+    none.addFeast(1900, 1900, none.addPattern(1, 0, 1), NEXT_FREE);
+    fallsOn(none, 9, 0, 400);
+    Checks.due(none.feastOn(0), -1);
     // With one Monday between free it is that.
     ZoneCalendar y = new ZoneCalendar();
     y.setWeek(MONDAY);
@@ -480,6 +491,19 @@ final class WorkEdgesTest {
     // September 1st (the 59th day) and October 1st to October 30th, December 1st to January 29th, 2001 (the 59th).
     fallsOn(x, 4, day(1999, 6, 1), day(2001, 8, 1), day(2000, 1, 31), day(2000, 5, 29), day(2000, 7, 31),
         day(2000, 10, 30), day(2001, 1, 29));
+  }
+
+  private static void staysByItself() {
+    // Feast 5 is told on each first Monday of 2000. Those of January are taken, so that January's goes to February 7th,
+    // where February's is told: that one stays, for the feast there has no smaller number.
+    ZoneCalendar x = new ZoneCalendar();
+    x.setWeek(MONDAY);
+    for (int number = 1; number <= 5; number++) {
+      x.addFeast(2000, 2000, x.addPattern(1, 2, number), STAY);
+    }
+    x.addFeast(2000, 2000, x.addPattern(0, 2, 1), NEXT_FREE);
+    fallsOn(x, 5, day(1999, 6, 1), day(2000, 5, 31), day(2000, 2, 7), day(2000, 3, 6), day(2000, 4, 3),
+        day(2000, 5, 1));
   }
 
   private static void movedOverYear() {
@@ -725,6 +749,15 @@ final class WorkEdgesTest {
     }
     Checks.due(x.plusWorking(7000, 200), -1);
     Checks.due(x.plusWorking(7000, -200), -1);
+    // A feast counts, however far away it is up to that: of 200 days the one that is 150 behind, and ahead.
+    ZoneCalendar far = feast(ALL, 5, 1, STAY);
+    int feast = day(2000, 5, 1);
+    for (int away : new int[] {1, 59, 61, 150, 200}) {
+      Checks.due(far.plusWorking(feast - away, 200), feast - away + 201);
+      Checks.due(far.plusWorking(feast + away, -200), feast + away - 201);
+    }
+    Checks.due(far.plusWorking(feast - 201, 200), feast - 1);
+    Checks.due(far.plusWorking(feast + 201, -200), feast + 1);
     // Feasts on the first Mondays put it farther away.
     x.addFeast(1900, 2099, x.addPattern(0, 2, 1), STAY);
     Checks.due(x.plusWorking(7000, 71), -1);
