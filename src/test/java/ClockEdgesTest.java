@@ -794,6 +794,14 @@ final class ClockEdgesTest {
     Checks.due(back.momentOf(0, 30), 30);
     Checks.due(back.momentOf(0, 19), -1);
     Checks.due(back.momentOf(0, 179), 59);
+    // 180 from MOMENT 0 on, 100 from 10 on, 120 from 50 on: from the first MOMENT on the clock shows later times alone.
+    ZoneCalendar later = place(0);
+    turn(later, 1900, JANUARY_1ST, 0, NONE, 180);
+    turn(later, 1900, JANUARY_1ST, 10, NONE, 100);
+    turn(later, 1900, JANUARY_1ST, 50, NONE, 120);
+    Checks.due(later.momentOf(0, 105), -1);
+    Checks.due(later.momentOf(0, 109), -1);
+    Checks.due(later.momentOf(0, 110), 10);
     ZoneCalendar last = place(0);
     turn(last, 2099, DECEMBER_31ST, 1439, NONE, 60);
     Checks.due(last.momentOf(0, LAST_MOMENT - 1), LAST_MOMENT - 1);

@@ -457,16 +457,17 @@ final class WorkEdgesTest {
     fallsOn(first, 5, 0, 400);
     fallsOn(first, 6, 0, 400, day(1900, 4, 30));
     Checks.due(first.feastOn(0), 0);
-    // On none is not on DAY 0 either, where no other feast falls: Tuesdays alone, the first nine of which are taken.
+    // On none is not on DAY 0 either, a Monday on which no other feast falls; the next eight of these are taken.
     ZoneCalendar none = new ZoneCalendar();
-    none.setWeek(2);
-    for (int k = 0; k < 9; k++) {
-      int tuesday = 1 + 7 * k;
-      none.addFeast(1900, 1900, none.addPattern(none.monthOf(tuesday), 0, none.dayOfMonth(tuesday)), STAY);
+    none.setWeek(MONDAY);
+    for (int monday = 7; monday <= 56; monday += 7) {
+      none.addFeast(1900, 1900, none.addPattern(none.monthOf(monday), 0, none.dayOfMonth(monday)), STAY);
     }
-    none.addFeast(1900, 1900, none.addPattern(1, 0, 1), NEXT_FREE);
-    fallsOn(none, 9, 0, 400);
+    none.addFeast(1900, 1900, none.addPattern(1, 0, 2), NEXT_FREE);
+    fallsOn(none, 8, 0, 400);
     Checks.due(none.feastOn(0), -1);
+    Checks.due(none.workingDays(0, 100), 15 - 8);
+    Checks.due(none.plusWorking(100, -7), 0);
     // With one Monday between free it is that.
     ZoneCalendar y = new ZoneCalendar();
     y.setWeek(MONDAY);
