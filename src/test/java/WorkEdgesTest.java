@@ -103,6 +103,16 @@ final class WorkEdgesTest {
       }
       Checks.due("feast " + feast + " on DAY " + day, x.feastOn(day) == feast, due);
     }
+    countedAsOneByOne(x, first, Math.min(400, last - first + 1));
+  }
+
+  /** Many days looked at in one call are those that are looked at one by one. */
+  private static void countedAsOneByOne(ZoneCalendar x, int first, int days) {
+    int count = 0;
+    for (int day = first; day < first + days; day++) {
+      count += x.isWorking(day) ? 1 : 0;
+    }
+    Checks.due("working days from " + first, x.workingDays(first, days), count);
   }
 
   private static void workPlaces() {
@@ -362,6 +372,10 @@ final class WorkEdgesTest {
     ZoneCalendar y = feast(31, 7, 3, STAY);
     add(y, 7, 2, NEAREST);
     fallsOn(y, 1, wednesday - 9, wednesday + 9);
+    // So too from Wednesday ahead to Tuesday, on which there is one, though Monday is free.
+    ZoneCalendar z = feast(MONDAY + 2, 7, 4, STAY);
+    add(z, 7, 5, NEAREST);
+    fallsOn(z, 1, wednesday - 9, wednesday + 9);
   }
 
   private static void movesFromFreeDay() {
