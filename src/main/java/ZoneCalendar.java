@@ -129,7 +129,7 @@ public final class ZoneCalendar {
   // ---- places
 
   public int addPlace(int base) throws IllegalArgumentException, IllegalStateException {
-    if (base < -840 || base > 840) {
+    if (base < -Place.MOST_BASE || base > Place.MOST_BASE) {
       throw new IllegalArgumentException("base is not -840 to 840");
     }
     int added = placeCount;
@@ -659,9 +659,11 @@ public final class ZoneCalendar {
       }
       int begin = Days.monthBegin(index);
       int length = Days.monthBegin(index + 1) - begin;
-      int told = numberTold(begin, length);
+      int told;
       if (kind == EASTER_KIND) {
         told = Days.easter(FIRST_YEAR + index / 12) + number - 100 - begin + 1;
+      } else {
+        told = numberTold(begin, length);
       }
       return told < 1 || told > length ? -1 : begin + told - 1;
     }
@@ -749,6 +751,7 @@ public final class ZoneCalendar {
 
   /** A clock: the MOMENTS lie in pieces, one behind the other, each with one saving. */
   static final class Place {
+    static final int MOST_BASE = 840;
     static final int MOST_SAVING = 180;
     private static final int MOST_TURNS = 6;
 
@@ -786,7 +789,7 @@ public final class ZoneCalendar {
     void findPieces() {
       pieces = 0;
       addPiece(0, 0);
-      int moment = Integer.MIN_VALUE;
+      int moment = -MOST_BASE - MOST_SAVING;
       int saving = 0;
       for (int year = FIRST_YEAR; year <= LAST_YEAR; year++) {
         tellTurns(year);
@@ -813,7 +816,7 @@ public final class ZoneCalendar {
     /** The turn that is told earliest of those left of a year, which it leaves with that; -1 without one. */
     private int takeEarliest() {
       int found = -1;
-      int least = Integer.MAX_VALUE;
+      int least = LAST_MOMENT + 1;
       for (int k = 0; k < told.length; k++) {
         if (told[k] >= 0 && told[k] < least) {
           found = k;

@@ -31,6 +31,7 @@ final class FaceTest {
     Checks.test("the face is the document's", FaceTest::face);
     Checks.test("fields and classes inside", FaceTest::inside);
     Checks.test("words that the language leaves out", FaceTest::words);
+    Checks.test("nothing of the library but what is listed", FaceTest::library);
     Checks.test("methods stay short", FaceTest::lengths);
     Checks.test("calls go at most eight deep", FaceTest::depth);
     Checks.test("calls make few objects", FaceTest::room);
@@ -115,6 +116,25 @@ final class FaceTest {
       Checks.due(thrown.group(), plain, true);
     }
     Checks.due("signs beyond 126", program.chars().allMatch(sign -> sign < 127), true);
+  }
+
+  /** Each name of a class, and what is used of the library's, is one that rule 4 or rule 6 lists. */
+  private static void library() {
+    String program = withoutComments().replaceAll("\"[^\"]*\"", "");
+    Set<String> known = new TreeSet<>(List.of("ZoneCalendar", "Math", "IndexOutOfBoundsException",
+        "IllegalArgumentException", "IllegalStateException"));
+    for (Class<?> each : ZoneCalendar.class.getDeclaredClasses()) {
+      known.add(each.getSimpleName());
+    }
+    Matcher name = Pattern.compile("\\b[A-Z]\\w*[a-z]\\w*").matcher(program);
+    while (name.find()) {
+      Checks.due(name.group() + " is known", known.contains(name.group()), true);
+    }
+    Matcher used = Pattern.compile("\\bMath\\s*\\.\\s*(\\w+)").matcher(program);
+    while (used.find()) {
+      boolean listed = List.of("min", "max", "abs", "floorDiv", "floorMod").contains(used.group(1));
+      Checks.due(used.group() + " is listed", listed, true);
+    }
   }
 
   private static void lengths() {
