@@ -16,6 +16,7 @@ public final class AllTests {
     DigestTest.run();
     RefusedCallsTest.run();
     FaceTest.run();
+    ReadmeTest.run();
     RandomRunsTest.run(args.length > 0 ? Integer.parseInt(args[0]) : 60);
     if (!Checks.end()) {
       System.exit(1);
